@@ -152,9 +152,9 @@ public final class SleepBridge {
         }
         switch (what) {
             case 0:
-                return rules.wakingChance(now, sleeper);
+                return rules.wakingOf(now, sleeper);
             case 1:
-                return rules.deepening(now, sleeper);
+                return rules.deepeningOf(now, sleeper);
             default:
                 return NO_SUCH;
         }
@@ -506,15 +506,15 @@ public final class SleepBridge {
                 int of = steps[next] >> 3;
                 next++;
                 if (step == END) {
-                    return stack[top - 1 & STACK - 1];
+                    return stack[(top - 1) & (STACK - 1)];
                 }
                 if (step == PUSH || step == LOOK) {
-                    stack[top & STACK - 1] = step == PUSH ? of : seen[of & Rules.SEEN - 1];
+                    stack[top & (STACK - 1)] = step == PUSH ? of : seen[of & (Rules.SEEN - 1)];
                     top++;
                     continue;
                 }
-                int left = stack[top - 2 & STACK - 1];
-                int right = stack[top - 1 & STACK - 1];
+                int left = stack[(top - 2) & (STACK - 1)];
+                int right = stack[(top - 1) & (STACK - 1)];
                 if (step == UNLESS_LESS) {
                     top -= 2;
                     next = left < right ? next : of;
@@ -533,7 +533,7 @@ public final class SleepBridge {
                     return 0;
                 }
                 top--;
-                stack[top - 1 & STACK - 1] = joined;
+                stack[(top - 1) & (STACK - 1)] = joined;
             }
             return 0;
         }
@@ -1169,13 +1169,10 @@ public final class SleepBridge {
         int noiseOf(Night night) {
             int sum = 0;
             for (int c = 0; c < text.crossers; c++) {
-                sum += isOnBridge(night.where[c]) ? text.noise[c] : 0;
+                int place = night.where[c];
+                sum += place >= 0 && place < MOST_SPANS ? text.noise[c] : 0;
             }
             return sum;
-        }
-
-        private static boolean isOnBridge(int place) {
-            return place >= 0 && place < MOST_SPANS;
         }
 
         int crossersAt(Night night, int place) {
@@ -1184,6 +1181,15 @@ public final class SleepBridge {
                 set |= night.where[c] == place ? 1 << c : 0;
             }
             return set;
+        }
+
+        boolean someAreOnTheWay(Night night) {
+            for (int c = 0; c < text.crossers; c++) {
+                if (night.where[c] == SENT || night.where[c] >= 0 && night.where[c] < MOST_SPANS) {
+                    return true;
+                }
+            }
+            return false;
         }
 
         int lyingOn(Night night, int span) {
@@ -1246,13 +1252,22 @@ public final class SleepBridge {
             return within(text.laws.value(HOLDS, seen), 0, 99);
         }
 
-        int wakingChance(Night night, int s) {
+        int wakingOf(Night night, int s) {
             lookAsItLies(night, s);
+            return waking();
+        }
+
+        int deepeningOf(Night night, int s) {
+            lookAsItLies(night, s);
+            return deepening();
+        }
+
+        /** Of the sleeper that was looked at last, as is deepening(). */
+        private int waking() {
             return within(text.laws.value(WAKES, seen), 0, 100);
         }
 
-        int deepening(Night night, int s) {
-            lookAsItLies(night, s);
+        private int deepening() {
             return within(text.laws.value(DEEPENS, seen), -9, 9);
         }
 
@@ -1269,8 +1284,9 @@ public final class SleepBridge {
             seen[NOISE] = 0;
             seen[LOAD] = 0;
             for (int c = 0; c < text.crossers; c++) {
-                seen[NOISE] += isOnBridge(night.where[c]) ? text.noise[c] : 0;
-                seen[LOAD] += night.where[c] == span ? text.load[c] : 0;
+                int place = night.where[c];
+                seen[NOISE] += place >= 0 && place < MOST_SPANS ? text.noise[c] : 0;
+                seen[LOAD] += place == span ? text.load[c] : 0;
             }
         }
 
@@ -1296,19 +1312,19 @@ public final class SleepBridge {
 
         /** No law looks at another one's depth, so depths can be changed at once, but not who sleeps. */
         private void sleepOn(Night night, boolean quiet, int seed) {
-            int waking = 0;
+            int woken = 0;
             for (int s = 0; s < text.sleepers; s++) {
                 if ((night.asleep >> s & 1) == 0) {
                     continue;
                 }
-                int which = 16 * night.allHours + s;
-                if (!quiet && lotOf100(seed, which) < wakingChance(night, s)) {
-                    waking |= 1 << s;
+                lookAsItLies(night, s);
+                if (!quiet && lotOf100(seed, 16 * night.allHours + s) < waking()) {
+                    woken |= 1 << s;
                 } else {
-                    night.depth[s] = within(night.depth[s] + deepening(night, s), 0, 99);
+                    night.depth[s] = within(night.depth[s] + deepening(), 0, 99);
                 }
             }
-            night.asleep &= ~waking;
+            night.asleep &= ~woken;
         }
 
         private static int lotOf100(int seed, int which) {
@@ -1487,7 +1503,9 @@ public final class SleepBridge {
         private void tryOrders(Night now, int left, int sent) {
             if (left == 0 || sent >= MOST_CROSSERS) {
                 shelf.fetch(sent, ghost);
-                rules.passHours(ghost, ORDER_HOURS - sent, true, 0);
+                for (int n = sent; n < ORDER_HOURS && rules.someAreOnTheWay(ghost); n++) {
+                    rules.passHours(ghost, 1, true, 0);
+                }
                 weighOrder(ghost.tolls - now.tolls);
                 return;
             }
@@ -1513,13 +1531,7 @@ public final class SleepBridge {
         int hoursUntilOver(Night now, int crosser) {
             ghost.copy(now);
             ghost.where[crosser] = SENT;
-            for (int n = 1; n <= MOST_AHEAD; n++) {
-                rules.passHours(ghost, 1, true, 0);
-                if (ghost.where[crosser] == OVER) {
-                    return n;
-                }
-            }
-            return NOT_AT_ALL;
+            return hoursOnTheWay(ghost, crosser, MOST_AHEAD, true, 0);
         }
 
         int latestStart(Night now, int crosser) {
@@ -1528,22 +1540,12 @@ public final class SleepBridge {
             for (int wait = 0; wait <= MOST_WAIT && ghost.hour < rules.text.dawn; wait++) {
                 other.copy(ghost);
                 other.where[crosser] = SENT;
-                if (isOverByDawn(other, crosser)) {
+                if (hoursOnTheWay(other, crosser, rules.text.dawn - ghost.hour, true, 0) != NOT_AT_ALL) {
                     latest = wait;
                 }
                 rules.passHours(ghost, 1, true, 0);
             }
             return latest;
-        }
-
-        private boolean isOverByDawn(Night night, int crosser) {
-            for (int n = 0; n <= MOST_AHEAD && night.hour < rules.text.dawn; n++) {
-                rules.passHours(night, 1, true, 0);
-                if (night.where[crosser] == OVER) {
-                    return true;
-                }
-            }
-            return false;
         }
 
         int seedsOver(Night now, int crosser, int n, int seeds) {
@@ -1553,10 +1555,20 @@ public final class SleepBridge {
                 if (ghost.where[crosser] == HOME) {
                     ghost.where[crosser] = SENT;
                 }
-                rules.passHours(ghost, n, false, rules.text.seed + i);
-                overs += ghost.where[crosser] == OVER ? 1 : 0;
+                overs += hoursOnTheWay(ghost, crosser, n, false, rules.text.seed + i) == NOT_AT_ALL ? 0 : 1;
             }
             return overs;
+        }
+
+        /** Until it is over, but for most hours; the night is of no use behind. */
+        private int hoursOnTheWay(Night night, int crosser, int most, boolean quiet, int seed) {
+            for (int n = 0; n <= most && night.where[crosser] != FALLEN; n++) {
+                if (night.where[crosser] == OVER) {
+                    return n;
+                }
+                rules.passHours(night, 1, quiet, seed);
+            }
+            return NOT_AT_ALL;
         }
     }
 

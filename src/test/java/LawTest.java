@@ -22,6 +22,7 @@ public final class LawTest {
         held();
         variables();
         lastOne();
+        longest();
         CHECK.end();
     }
 
@@ -121,5 +122,22 @@ public final class LawTest {
         CHECK.dueRow("the last of each", new int[] {x.count(0), x.span(0, 0), x.then(4, true, 2, 0), x.then(5, true, 2, 0)}, 4, 9, 2, 0);
         x.hours(1);
         CHECK.due("seed 1, not 5", x.count(12), 1);
+    }
+
+    /** 400 tokens are one law, and may be so again and again. */
+    private static void longest() {
+        SleepBridge x = new SleepBridge();
+        for (int i = 1; i <= 4; i++) {
+            CHECK.due("read", Check.read(x, "sleeper a 7 2 3 1; holds = " + i + "+0".repeat(192) + "+9*" + i + ";"), 0);
+            CHECK.due("all of it counts", x.sleeper(0, 5), 10 * i);
+            CHECK.due("read", Check.read(x, "sleeper a 7 2 3 1; deepens = " + i + "+0".repeat(192) + "-2*" + i + ";"), 0);
+            CHECK.dueRow("the others are as not told", new int[] {x.sleeper(0, 5), x.tells(0, 0), x.tells(0, 1)}, 7, 0, -i);
+        }
+        CHECK.due("read", Check.read(x, "sleeper a 7 2 3 1;" + "holds=1;wakes=2;deepens=3;".repeat(32) + "holds=7;"), 0);
+        CHECK.dueRow("the last of many", new int[] {x.sleeper(0, 5), x.tells(0, 0), x.tells(0, 1)}, 7, 2, 3);
+        // as many values wait as can: six brackets, each behind a sum and a product
+        x = Check.of("sleeper a 7 2 3 1; holds = if 5 < 1 + 1 * (1 + 1 * (1 + 1 * (1 + 1 * (1 + 1 * (1 + 1 * (1 + 1 * 1))))))"
+                + "then 1 + 1 * (1 + 1 * (1 + 2 * (1 + 1 * (1 + 1 * (1 + 3 * (1 + 1 * 1)))))) else 1;");
+        CHECK.due("the deepest", x.sleeper(0, 5), 1 + (1 + (1 + 2 * (1 + (1 + (1 + 3 * 2))))));
     }
 }

@@ -8,6 +8,7 @@ import java.util.Random;
 public final class ModelTest {
     private static final int RUNS = 1500;
     private static final int CALLS = 150;
+    private static final int[] FAR = {Integer.MIN_VALUE, Integer.MIN_VALUE + 1, -100, 31, 32, 33, 1000, 65536, Integer.MAX_VALUE - 1, Integer.MAX_VALUE};
 
     private final Check check = new Check();
     private final Random random;
@@ -77,8 +78,11 @@ public final class ModelTest {
         due("place()", bridge.place(), model.place());
     }
 
-    /** Mostly a number that there is, sometimes one beside. */
+    /** Mostly a number that there is, sometimes one beside, or one far off. */
     private int upTo(int most) {
+        if (random.nextInt(100) == 0) {
+            return FAR[random.nextInt(FAR.length)];
+        }
         return random.nextInt(8) == 0 ? random.nextInt(most + 4) - 2 : random.nextInt(most + 1);
     }
 
