@@ -339,7 +339,7 @@ public final class SleepBridge {
         if (k < 0 || k > rumours.size) {
             return NONE;
         }
-        return rumours.findSets(now, k) == 0 ? NOT_AT_ALL : rumours.bestQuestion(now);
+        return rumours.findSets(now, k) == 0 ? NOT_AT_ALL : rumours.bestQuestion();
     }
 
     public boolean hold(int slot) {
@@ -1504,7 +1504,7 @@ public final class SleepBridge {
             if (left == 0 || sent >= MOST_CROSSERS) {
                 shelf.fetch(sent, ghost);
                 for (int n = sent; n < ORDER_HOURS && rules.someAreOnTheWay(ghost); n++) {
-                    rules.passHours(ghost, 1, true, 0);
+                    rules.passHours(ghost, 1, true, rules.text.seed);
                 }
                 weighOrder(ghost.tolls - now.tolls);
                 return;
@@ -1513,7 +1513,7 @@ public final class SleepBridge {
                 if ((left >> c & 1) == 1) {
                     shelf.fetch(sent, ghost);
                     ghost.where[c] = SENT;
-                    rules.passHours(ghost, 1, true, 0);
+                    rules.passHours(ghost, 1, true, rules.text.seed);
                     shelf.store(sent + 1, ghost);
                     sending[sent] = c;
                     tryOrders(now, left & ~(1 << c), sent + 1);
@@ -1531,7 +1531,7 @@ public final class SleepBridge {
         int hoursUntilOver(Night now, int crosser) {
             ghost.copy(now);
             ghost.where[crosser] = SENT;
-            return hoursOnTheWay(ghost, crosser, MOST_AHEAD, true, 0);
+            return hoursOnTheWay(ghost, crosser, MOST_AHEAD, true, rules.text.seed);
         }
 
         int latestStart(Night now, int crosser) {
@@ -1540,10 +1540,10 @@ public final class SleepBridge {
             for (int wait = 0; wait <= MOST_WAIT && ghost.hour < rules.text.dawn; wait++) {
                 other.copy(ghost);
                 other.where[crosser] = SENT;
-                if (hoursOnTheWay(other, crosser, rules.text.dawn - ghost.hour, true, 0) != NOT_AT_ALL) {
+                if (hoursOnTheWay(other, crosser, rules.text.dawn - ghost.hour, true, rules.text.seed) != NOT_AT_ALL) {
                     latest = wait;
                 }
-                rules.passHours(ghost, 1, true, 0);
+                rules.passHours(ghost, 1, true, rules.text.seed);
             }
             return latest;
         }
@@ -1624,8 +1624,8 @@ public final class SleepBridge {
             return true;
         }
 
-        int bestQuestion(Night now) {
-            ghost.copy(now);
+        /** By the sets that findSets() found, and its ghost. */
+        int bestQuestion() {
             int best = 0;
             int fewest = MOST_SETS + 1;
             for (int span = 0; span < rules.text.spans; span++) {

@@ -24,6 +24,7 @@ public final class FaultTest {
         room();
         roomOfTokens();
         twice();
+        namesDiffer();
         name();
         wrong();
         firstOfAll();
@@ -167,6 +168,28 @@ public final class FaultTest {
         marked(two + "pair a b; pair b @a;", 3);
         sound(two + "pair a b; pair c a; pair b c;");
         marked(two + "pair b c; pair a b; pair c @b; pair a a;", 3);
+    }
+
+    /** Each name of two letters among ten of one, eight letters that differ in one. */
+    private static void namesDiffer() {
+        for (char first = 'a'; first <= 'z'; first++) {
+            for (char second = 'a'; second <= 'z'; second++) {
+                StringBuilder text = new StringBuilder("sleeper " + first + second + " 1 1 1 1;");
+                for (int i = 0; i < 10; i++) {
+                    char one = (char) ('a' + (first + second * 3 + i * 5) % 26);
+                    text.append(i < 5 ? "sleeper " : "crosser ").append(one).append(i < 5 ? " 1 1 1 1;" : " 1 1 1;");
+                }
+                if (first != 'i' || second != 'f') {
+                    sound(text.toString());
+                }
+            }
+        }
+        for (int at = 0; at < 8; at++) {
+            for (char letter = 'b'; letter <= 'z'; letter++) {
+                String other = "aaaaaaaa".substring(0, at) + letter + "aaaaaaaa".substring(at + 1);
+                sound("sleeper aaaaaaaa 1 1 1 1; crosser " + other + " 1 1 1; sleeper aaaaaaa 1 1 1 1;");
+            }
+        }
     }
 
     private static void name() {

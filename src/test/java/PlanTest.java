@@ -87,6 +87,8 @@ public final class PlanTest {
         CHECK.due("not more", x.better(0), -2);
         x = Check.of("spans 1; sleeper a 9 0 0 0;");
         CHECK.due("no other span", x.better(2), -2);
+        x = Check.of("spans 1; sleeper a 9 0 0 0; sleeper b 9 0 0 0; holds = 5 - beside * 3;");
+        CHECK.due("one alone would bear more, but there is no other span", x.better(0), -2);
         x = Check.of("spans 2; sleeper a 9 0 0 0; sleeper b 9 0 0 0; wakes = 100;");
         CHECK.due("asleep", x.better(0), 0);
         x.hours(1);
