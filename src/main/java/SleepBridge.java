@@ -576,6 +576,11 @@ public final class SleepBridge {
             laws.clear();
         }
 
+        /** All but those that are awake (or thought so); the hour is as it is: from dawn on nobody sleeps. */
+        int asleepAt(int hour, int awake) {
+            return hour >= dawn ? 0 : (1 << sleepers) - 1 & ~awake;
+        }
+
         int sleeperNamed(long name) {
             for (int s = 0; s < sleepers; s++) {
                 if (sleeperNames[s] == name) {
@@ -1047,7 +1052,7 @@ public final class SleepBridge {
 
         private void putToSleep(Text text) {
             hour = 0;
-            asleep = text.dawn > 0 ? (1 << text.sleepers) - 1 : 0;
+            asleep = text.asleepAt(hour, 0);
             for (int s = 0; s < MOST_SLEEPERS; s++) {
                 depth[s] = text.depth[s];
             }
@@ -1606,7 +1611,7 @@ public final class SleepBridge {
             setCount = 0;
             int all = (1 << rules.text.sleepers) - 1;
             for (int set = 0; set <= all && setCount < MOST_SETS; set++) {
-                ghost.asleep = all & ~set;
+                ghost.asleep = rules.text.asleepAt(ghost.hour, set);
                 if (isSo(known)) {
                     sets[setCount] = set;
                     setCount++;
@@ -1641,7 +1646,7 @@ public final class SleepBridge {
         private int mostLeft(int span) {
             int most = 0;
             for (int i = 0; i < setCount; i++) {
-                ghost.asleep = (1 << rules.text.sleepers) - 1 & ~sets[i];
+                ghost.asleep = rules.text.asleepAt(ghost.hour, sets[i]);
                 answers[i] = rules.borne(ghost, span);
                 int alike = 0;
                 for (int j = 0; j <= i; j++) {

@@ -743,10 +743,10 @@ final class BridgeModel {
         return best[0] < 0 ? -2 : best[what];
     }
 
-    private static State withAsleep(State from, int set) {
+    private State withAsleep(State from, int set) {
         State state = from.copy();
         for (int s = 0; s < state.asleep.length; s++) {
-            state.asleep[s] = (set >> s & 1) == 1;
+            state.asleep[s] = (set >> s & 1) == 1 && state.hour < text.dawn;
         }
         return state;
     }

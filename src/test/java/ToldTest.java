@@ -11,6 +11,8 @@ public final class ToldTest {
         awake();
         awakeAsItIs();
         asking();
+        atDawn();
+        fromDawnOn();
         CHECK.end();
     }
 
@@ -76,10 +78,6 @@ public final class ToldTest {
         x.forget();
         x.tell(0, 22);
         CHECK.dueRow("d lies on span 0 too", new int[] {x.awake(1, -1), x.awake(1, 0), x.awake(1, 1)}, 2, 0, 16);
-        x.hours(6);
-        x.forget();
-        x.tell(1, 4 + 6);
-        CHECK.dueRow("at dawn, too, others are thought asleep", new int[] {x.count(12), x.sleeper(4, 0), x.awake(1, -1)}, 0, 10, 16);
         x = Check.of("sleeper a 5 0 0 0; sleeper b 5 0 0 0; holds = 3 + beside;");
         x.tell(0, 3);
         CHECK.dueRow("one alone holds 3, two 4 each", sets(x, 1), 2, 1, 2, -1);
@@ -104,5 +102,36 @@ public final class ToldTest {
         CHECK.due("of alike ones the first", x.ask(0), 0);
         x = Check.of("spans 4; sleeper a 5 0 0 3;");
         CHECK.due("the last span", x.ask(0), 3);
+    }
+
+    /** Nobody can be asleep at dawn, whoever is thought awake: each set makes every span bear 0. */
+    private static void atDawn() {
+        SleepBridge x = Check.of("spans 2; sleeper ann 10 3 2 0; sleeper bob 6 5 1 1; sleeper cid 4 1 4 1; pair bob cid; crosser max 1 9 50;"
+                + "holds = depth; deepens = 1 - noise; dawn 6; bonus 3;");
+        x.hours(5);
+        // an hour ahead: span 0 parts 4 and 4, span 1 2, 2, 2, 2
+        CHECK.dueRow("ahead of dawn", new int[] {x.count(12), x.ask(0), x.tell(0, 0), x.awake(1, -1), x.awake(1, 0), x.ask(1)}, 7, 1, 0, 4, 1, 1);
+        x.forget();
+        x.hours(1);
+        CHECK.dueRow("at dawn no span parts sets", new int[] {x.count(4), x.count(12), x.ask(0), x.awake(0, -1)}, 6, 0, 0, 8);
+        x.tell(0, 0);
+        CHECK.dueRow("0 is so for each set", new int[] {x.awake(1, -1), x.awake(1, 0), x.awake(1, 7), x.awake(1, 8), x.ask(1)}, 8, 0, 7, -1, 0);
+        x.tell(1, 1);
+        CHECK.dueRow("1 is so for none", new int[] {x.awake(2, -1), x.awake(2, 0), x.ask(2), x.ask(1)}, 0, -1, -2, 0);
+        x.undo();
+        CHECK.dueRow("ahead of dawn again", new int[] {x.count(4), x.ask(0), x.awake(1, -1)}, 5, 1, 4);
+    }
+
+    private static void fromDawnOn() {
+        SleepBridge x = Check.of("spans 2; sleeper a 5 0 0 1; sleeper b 5 0 0 1; pair a b; dawn 3;");
+        CHECK.due("hour 0", x.ask(0), 1);
+        x.hours(24);
+        CHECK.dueRow("long behind dawn", new int[] {x.ask(0), x.tell(1, 15), x.awake(1, -1), x.tell(1, 0), x.awake(2, -1)}, 0, 0, 0, 1, 0);
+        x.night();
+        CHECK.dueRow("a new night", new int[] {x.ask(0), x.awake(1, -1), x.awake(1, 0), x.awake(2, -1)}, 1, 1, 0, 0);
+        x = Check.of("spans 2; sleeper a 5 0 0 1; dawn 0;");
+        CHECK.dueRow("dawn 0", new int[] {x.ask(0), x.tell(1, 0), x.awake(1, -1)}, 0, 0, 2);
+        x.night();
+        CHECK.dueRow("dawn 0, night 2", new int[] {x.count(12), x.ask(0), x.awake(1, -1)}, 0, 0, 2);
     }
 }
