@@ -1307,9 +1307,7 @@ public final class SleepBridge {
                 sleepOn(night, quiet, seed);
                 night.hour++;
                 night.allHours++;
-                if (night.hour >= text.dawn) {
-                    night.asleep = 0;
-                }
+                night.asleep = text.asleepAt(night.hour, ~night.asleep);
                 letSpansBreak(night);
                 letCrossersGo(night);
             }
