@@ -5,12 +5,18 @@ import java.util.Arrays;
 final class Check {
     private int asked;
     private int wrong;
+    private String sentence = "";
+
+    /** The document's words that the next answers hold to; QuoteTest looks whether the document has them. */
+    void says(String words) {
+        sentence = " (the document: " + words + ")";
+    }
 
     void due(String call, long got, long want) {
         asked++;
         if (got != want) {
             wrong++;
-            System.out.println(call + " answered " + got + ", due is " + want);
+            System.out.println(call + " answered " + got + ", due is " + want + sentence);
         }
     }
 
@@ -23,8 +29,12 @@ final class Check {
         asked++;
         if (!Arrays.equals(got, want)) {
             wrong++;
-            System.out.println(call + " answered " + Arrays.toString(got) + ", due is " + Arrays.toString(want));
+            System.out.println(call + " answered " + Arrays.toString(got) + ", due is " + Arrays.toString(want) + sentence);
         }
+    }
+
+    static int bit(boolean answer) {
+        return answer ? 1 : 0;
     }
 
     int wrong() {
