@@ -14,6 +14,7 @@ public final class EdgeDeedTest {
         nights();
         undoingNothing();
         undoingEach();
+        undoingWhoWasOver();
         undoingForty();
         undoingInBetween();
         whatIsNoThingDone();
@@ -156,6 +157,21 @@ public final class EdgeDeedTest {
                 1, 0, 0, 2, 4, 1, 0, 1);
     }
 
+    private static void undoingWhoWasOver() {
+        CHECK.says("The last thing done (send, lay, lull, hours, night) is undone: true; false: there is none (the last 40 can be).");
+        SleepBridge x = Check.of("spans 1; sleeper a 20 0 0 0; crosser p 5 1 7; crosser q 5 1 9; dawn 30;");
+        x.send(0);
+        x.send(1);
+        x.hours(2);
+        CHECK.dueRow("over", new int[] {x.crosser(0, 3), x.crosser(0, 4), x.crosser(1, 4), x.count(7), x.count(18)}, 9, 1, 1, 16, 2);
+        x.undo();
+        CHECK.dueRow("never over", new int[] {x.crosser(0, 3), x.crosser(0, 4), x.crosser(1, 4), x.count(7), x.count(18)}, -3, 0, 0, 0, 0);
+        x.hours(2);
+        x.night();
+        x.undo();
+        CHECK.dueRow("over again", new int[] {x.crosser(0, 3), x.crosser(0, 4), x.crosser(1, 4), x.count(7), x.count(18)}, 9, 1, 1, 16, 2);
+    }
+
     private static void undoingForty() {
         CHECK.says("The last thing done (send, lay, lull, hours, night) is undone: true; false: there is none (the last 40 can be).");
         for (int things = 38; things <= 85; things += things < 43 || things > 78 ? 1 : 5) {
@@ -274,9 +290,12 @@ public final class EdgeDeedTest {
         x.hold(1);
         x.night();
         x.send(0);
+        x.hours(2);
+        x.night();
+        x.send(0);
         x.hours(1);
         x.night();
-        CHECK.dueRow("later", new int[] {x.count(5), x.count(6), x.count(7), x.count(18), x.crosser(0, 3)}, 4, 5, 14, 2, 10);
+        CHECK.dueRow("later", new int[] {x.count(5), x.count(6), x.count(7), x.count(18), x.crosser(0, 3), x.crosser(0, 4)}, 5, 7, 21, 3, 10, 3);
         x.restore(1);
         CHECK.dueRow("as held", new int[] {x.count(5), x.count(6), x.count(7), x.count(18), x.crosser(0, 3), x.crosser(0, 4)}, 2, 4, 14, 2, 9, 2);
     }

@@ -10,6 +10,7 @@ public final class EdgeLongTest {
         layAndUndo();
         tolls();
         reads();
+        longLaws();
         CHECK.end();
     }
 
@@ -55,6 +56,20 @@ public final class EdgeLongTest {
         for (int i = 0; i < 40; i++) {
             CHECK.due("read", Check.read(x, texts[i % 4]), new int[] {0, 1, 0, 5}[i % 4]);
             CHECK.dueRow("spans, sleepers", new int[] {x.count(0), x.count(1)}, i % 4 < 2 ? 5 : 3, i % 4 < 2 ? 0 : 1);
+        }
+    }
+
+    private static void longLaws() {
+        SleepBridge x = new SleepBridge();
+        for (int i = 1; i <= 8; i++) {
+            CHECK.due("read", Check.read(x, "sleeper a 7 2 3 1; holds = " + i + "+0".repeat(192) + "+9*" + i + ";"), 0);
+            CHECK.dueRow("all of the law counts", new int[] {x.sleeper(0, 5), x.tells(0, 0), x.tells(0, 1)}, 10 * i, 0, 0);
+        }
+        x = new SleepBridge();
+        for (int i = 1; i <= 9; i++) {
+            String sum = "0" + "+0".repeat(60) + "+" + i + ";";
+            CHECK.due("read", Check.read(x, "sleeper a 7 2 3 1; holds = 1 + " + sum + " wakes = 2 + " + sum + " deepens = " + sum), 0);
+            CHECK.dueRow("each law counts", new int[] {x.sleeper(0, 5), x.tells(0, 0), x.tells(0, 1)}, i + 1, i + 2, i);
         }
     }
 }

@@ -102,6 +102,8 @@ public final class EdgePlanTest {
         CHECK.dueRow("none", better(x), -1, -2, -2, -2, -1);
         CHECK.dueRow("a new object", better(new SleepBridge()), -1, -2, -2, -2, -1);
         CHECK.dueRow("one span", better(Check.of("spans 1; sleeper a 9 0 0 0;")), -1, -2, -2, -2, -1);
+        x = Check.of("spans 2; sleeper a 1 0 0 0; sleeper b 2 0 0 0; sleeper c 3 0 0 0; sleeper d 4 0 0 0; sleeper e 5 0 0 0; sleeper f 9 0 0 0;");
+        CHECK.dueRow("six", better(x), -1, 5, 1, 9, -1);
     }
 
     private static void betterAlike() {
@@ -131,6 +133,8 @@ public final class EdgePlanTest {
         CHECK.dueRow("asleep", better(x), -1, 0, 1, 5, -1);
         x.hours(1);
         CHECK.dueRow("awake", better(x), -1, -2, -2, -2, -1);
+        CHECK.dueRow("alone each would bear more, but there is no other span", better(Check.of("spans 1; sleeper a 5 0 0 0; sleeper b 5 0 0 0; holds = 5 - beside * 3;")),
+                -1, -2, -2, -2, -1);
         CHECK.dueRow("dawn 0", better(Check.of("spans 2; sleeper a 5 0 0 0; sleeper b 5 0 0 0; dawn 0;")), -1, -2, -2, -2, -1);
     }
 
@@ -196,6 +200,8 @@ public final class EdgePlanTest {
         CHECK.dueRow("0 by nobody", cheap(x, 0), -1, 0, 0, -1);
         x = Check.of("spans 1; sleeper a 6 0 9 0; sleeper b 6 0 9 0; sleeper c 9 0 9 0; sleeper d 9 0 9 0;");
         CHECK.dueRow("9 by c, not by a and b", cheap(x, 9), -1, 9, 4, -1);
+        x = Check.of("spans 1; sleeper a 5 0 1 0; sleeper b 5 0 1 0; sleeper c 9 0 3 0; sleeper d 10 0 2 0;");
+        CHECK.dueRow("a and b, not d, though two", cheap(x, 10), -1, 2, 3, -1);
     }
 
     private static void cheapOfThoseAsleep() {

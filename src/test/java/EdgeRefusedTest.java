@@ -1,3 +1,6 @@
+import java.util.ArrayList;
+import java.util.List;
+
 /** A refused call, and a call that only asks, changes nothing that other calls show; nor does a text with a fault. */
 public final class EdgeRefusedTest {
     private static final Check CHECK = new Check();
@@ -6,6 +9,11 @@ public final class EdgeRefusedTest {
     private static final String TEXT = "spans 3;sleeper a 30 1 2 0;sleeper b 25 0 4 0;sleeper c 40 0 6 1;sleeper d 35 0 1 2;pair a b;pair c d;crosser p 6 2 11;"
             + "crosser q 3 1 5;crosser r 99 9 99;crosser s 1 1 7;crosser t 2 1 8;bonus 4;dawn 30;seed 7;holds=depth-noise;"
             + "wakes=if hour<1 then weight*100 else 3;deepens=1;";
+    private static final String[] FAULTY = {"spans 1; sleeper q 1 1 1 0; crosser r 1 1 1; holds = 7; wakes = 8; deepens = 9; bonus 9; dawn 9; seed 9; !",
+        "spans 2; holds = (((((((1)))))));", "sleeper a 1 1 1 1; sleeper a 1 1 1 1;", "sleeper a 1 1 1 1; pair a b;", "spans 6;", "spans 1; sleeper a 1 1 1 1;", "spans"};
+    private static final String[] SOUND = {"", "spans 5;", TEXT, "dawn 0; sleeper a 9 1 1 0;",
+        "sleeper a 9 1 1 0; sleeper b 8 1 1 0; sleeper c 7 1 1 0; sleeper d 6 1 1 0; sleeper e 5 1 1 1; sleeper f 4 1 1 2; pair a b; pair c d; wakes = 52;",
+        "spans 5; sleeper c 9 1 1 0; sleeper d 8 1 1 4; crosser b 3 2 1; pair d c;", "crosser a 1 1 1; crosser b 1 1 1; seed 5; bonus 0; dawn 1; holds = 1; deepens = 2; wakes = 3;"};
     private static final Twins RICH = new Twins(CHECK, EdgeRefusedTest::rich);
 
     public static void main(String[] args) {
@@ -14,6 +22,7 @@ public final class EdgeRefusedTest {
         backRefused();
         faults();
         soundText();
+        textBehindTexts();
         sendRefused();
         layRefused();
         lullRefused();
@@ -78,11 +87,9 @@ public final class EdgeRefusedTest {
 
     private static void faults() {
         CHECK.says("A text with a FAULT changes nothing but the tape;");
-        String[] texts = {"spans 1; sleeper q 1 1 1 0; crosser r 1 1 1; holds = 7; wakes = 8; deepens = 9; bonus 9; dawn 9; seed 9; !", "spans 2; holds = (((((((1)))))));",
-            "sleeper a 1 1 1 1; sleeper a 1 1 1 1;", "sleeper a 1 1 1 1; pair a b;", "spans 6;", "spans 1; sleeper a 1 1 1 1;", "spans"};
         int[] due = {1, 2, 3, 4, 5, 5, 1};
-        for (int i = 0; i < texts.length; i++) {
-            String text = texts[i];
+        for (int i = 0; i < FAULTY.length; i++) {
+            String text = FAULTY[i];
             int fault = due[i];
             RICH.alike("a fault of " + text, x -> x.back(26), x -> {
                 x.back(26);
@@ -100,15 +107,36 @@ public final class EdgeRefusedTest {
         CHECK.dueRow("behind", new int[] {x.count(4), x.count(5), x.count(6), x.count(7), x.count(9), x.count(10), x.count(11), x.count(18)}, 0, 1, 0, 0, 0, 0, 0, 0);
         CHECK.dueRow("by the text that was on the tape", new int[] {x.count(0), x.count(1), x.count(2), x.count(3), x.count(12), x.count(13), x.sleeper(0, 0)}, 2, 1, 0, 0, 1, 0, 7);
         CHECK.dueRow("nothing to undo, nothing held", new int[] {Check.bit(x.undo()), Check.bit(x.restore(0)), Check.bit(x.restore(2))}, 0, 0, 0);
-        // nothing of the old one is left: all is as with a new object that read it
-        String[] texts = {"", "spans 5;", TEXT, "sleeper a 9 1 1 0; sleeper b 8 1 1 0; crosser c 3 2 1; pair a b; wakes = 50;", "dawn 0; sleeper a 9 1 1 0;"};
-        for (String text : texts) {
+        for (String text : SOUND) {
             SleepBridge old = rich();
             old.back(26);
             CHECK.due("read of " + text, Check.read(old, text), 0);
-            SleepBridge fresh = new SleepBridge();
-            CHECK.due("read of " + text, Check.read(fresh, text), 0);
-            CHECK.due("as new: " + text, Twins.picture(old, true).equals(Twins.picture(fresh, true)), true);
+            CHECK.due("as new: " + text, Twins.picture(old, true).equals(pictureOf(text)), true);
+        }
+    }
+
+    private static List<Integer> pictureOf(String text) {
+        SleepBridge fresh = new SleepBridge();
+        CHECK.due("read of " + text, Check.read(fresh, text), 0);
+        return Twins.picture(fresh, true);
+    }
+
+    /** Nothing of the texts ahead is left, nor of those ahead of them, with a fault or not: all is as with a new object. */
+    private static void textBehindTexts() {
+        CHECK.says("else it is in place of the one ahead: hour 0, all asleep, no CROSSER sent, no TOLL; nothing can be undone, nothing is TOLD, SLOTS hold nothing.");
+        List<String> ahead = new ArrayList<>(List.of(SOUND));
+        ahead.addAll(List.of(FAULTY));
+        for (String text : SOUND) {
+            List<Integer> due = pictureOf(text);
+            for (String first : ahead) {
+                for (String second : ahead) {
+                    SleepBridge x = new SleepBridge();
+                    Check.read(x, first);
+                    Check.read(x, second);
+                    CHECK.due("read of " + text, Check.read(x, text), 0);
+                    CHECK.due("as new: " + text + " behind " + first + " and " + second, Twins.picture(x, true).equals(due), true);
+                }
+            }
         }
     }
 

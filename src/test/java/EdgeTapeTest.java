@@ -121,13 +121,13 @@ public final class EdgeTapeTest {
 
     private static void textOf2000() {
         CHECK.says("A TEXT has 2,000 bytes at most.");
-        SleepBridge x = new SleepBridge();
-        CHECK.dueRow("2,000 bytes count, the last one too", new int[] {Check.read(x, " ".repeat(1992) + "spans 5;"), x.place(), x.count(0)}, 0, -1, 5);
-        CHECK.dueRow("the last one is no token", new int[] {Check.read(x, " ".repeat(1999) + "!"), x.place()}, 1, 1999);
-        CHECK.dueRow("the text's end is 2,000", new int[] {Check.read(x, " ".repeat(1995) + "spans"), x.place()}, 1, 2000);
-        CHECK.dueRow("a name that ends with the text", new int[] {Check.read(x, " ".repeat(1991) + "sleeper a"), x.place()}, 1, 2000);
-        CHECK.dueRow("an int that ends with the text", new int[] {Check.read(x, " ".repeat(1993) + "spans 3"), x.place()}, 1, 2000);
-        CHECK.dueRow("blanks alone", new int[] {Check.read(x, " ".repeat(2000)), x.place(), x.count(0)}, 0, -1, 3);
+        String[] texts = {"spans 5;", "!", "spans", "sleeper a", "spans 3", ""};
+        int[][] due = {{0, -1, 5}, {1, 1999, 3}, {1, 2000, 3}, {1, 2000, 3}, {1, 2000, 3}, {0, -1, 3}};
+        for (int i = 0; i < texts.length; i++) {
+            SleepBridge x = new SleepBridge();
+            int[] got = {Check.read(x, " ".repeat(2000 - texts[i].length()) + texts[i]), x.place(), x.count(0)};
+            CHECK.dueRow("2,000 bytes, with these at the end: " + texts[i], got, due[i]);
+        }
     }
 
     private static void goingBack() {

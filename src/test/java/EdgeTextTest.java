@@ -319,6 +319,7 @@ public final class EdgeTextTest {
         sound("holds = ((((((1)+1)+1)+1)+1)+1);");
         marked("holds = ((((((@(1)+1)+1)+1)+1)+1)+1);", 2);
         sound("holds = if ((((((1)))))) < ((((((2)))))) then ((((((3)))))) else ((((((4))))));");
+        marked("holds = if ((((((@(1))))))) < 2 then 3 else 4;", 2);
         marked("holds = if 1 < ((((((@(2))))))) then 3 else 4;", 2);
         marked("holds = if 1 < 2 then ((((((@(3))))))) else 4;", 2);
         marked("holds = if 1 < 2 then 3 else ((((((@(4)))))));", 2);
@@ -354,6 +355,7 @@ public final class EdgeTextTest {
         marked(FIVE + SIX.replace("sleeper f", "sleeper @e"), 3);
         sound("sleeper abcdefgh 1 1 1 1; sleeper abcdefg 1 1 1 1; crosser abcdefgi 1 1 1; crosser bbcdefgh 1 1 1;");
         sound("sleeper a 1 1 1 1; sleeper aa 1 1 1 1; sleeper aaa 1 1 1 1; crosser aaaa 1 1 1;");
+        sound("sleeper ab 1 1 1 1; sleeper r 1 1 1 1; sleeper ba 1 1 1 1; sleeper q 1 1 1 1; crosser ac 1 1 1; crosser ca 1 1 1; crosser z 1 1 1;");
     }
 
     private static void pairTwice() {

@@ -20,6 +20,7 @@ public final class EdgeToldTest {
         asked();
         askOfNoSets();
         askAtWorst();
+        askAtWorstNotOnTheWhole();
         askAlike();
         CHECK.end();
     }
@@ -211,6 +212,26 @@ public final class EdgeToldTest {
         CHECK.due("that is known: the middle one", x.ask(1), 1);
         x.tell(1, 2);
         CHECK.dueRow("three sets are left, and no span tells them apart", new int[] {x.awake(2, -1), x.ask(2)}, 3, 0);
+    }
+
+    /** Span 0 has six answers, of 4 or 12 sets; span 1 has four, each of 8: fewer are left at worst, though more on the whole. */
+    private static void askAtWorstNotOnTheWhole() {
+        CHECK.says("ASK: the SPAN of which, once it is known what it BEARS, fewest are left, at worst; of alike ones the first.");
+        SleepBridge x = Check.of("spans 2; sleeper a 9 0 0 0; sleeper b 9 0 0 0; sleeper c 9 0 0 0; sleeper d 1 0 0 1; sleeper e 2 0 0 1;"
+                + "holds = if 0 < span then depth else if beside < 1 then 5 else 5 + which;");
+        CHECK.due("8 at worst, not 12", x.ask(0), 1);
+        int[] amounts = {0, 5, 11, 12, 13, 18};
+        int[] left = {4, 12, 4, 4, 4, 4};
+        for (int i = 0; i < amounts.length; i++) {
+            x.forget();
+            x.tell(0, amounts[i]);
+            CHECK.due("sets by which span 0 bears " + amounts[i], x.awake(1, -1), left[i]);
+        }
+        for (int amount = 0; amount < 4; amount++) {
+            x.forget();
+            x.tell(1, amount);
+            CHECK.due("sets by which span 1 bears " + amount, x.awake(1, -1), 8);
+        }
     }
 
     private static void askAlike() {

@@ -98,6 +98,18 @@ public final class LanguageTest {
             CHECK.due("of System " + system.group(1), system.group(1).equals("arraycopy"), true);
         }
         methodsAreShort(code);
+        callsMakeNothing(code);
+    }
+
+    /** All rows are made as an object is made, so that no run of calls can fill the room. */
+    private static void callsMakeNothing(String code) {
+        for (String line : code.split("\n")) {
+            if (Pattern.compile("\\bnew\\b").matcher(line).find()) {
+                boolean isField = line.matches("    (    )?(private |final |private final )\\S+ \\w+ = new [^;]*;");
+                boolean isShelf = line.strip().equals("cells = new int[Math.max(0, nights) * Night.CELLS];");
+                CHECK.due("made with its object: " + line.strip(), isField || isShelf, true);
+            }
+        }
     }
 
     private static void methodsAreShort(String code) {

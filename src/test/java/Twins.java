@@ -68,6 +68,8 @@ final class Twins {
             seen.add(x.count(what));
         }
         seen.add(place ? x.place() : 0);
+        seen.add(x.then(1, false, 2, 0));
+        seen.add(x.then(2, false, 5, 0));
         for (int s = 0; s < 6; s++) {
             for (int what = 0; what < 6; what++) {
                 seen.add(x.sleeper(s, what));
