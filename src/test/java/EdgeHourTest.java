@@ -345,6 +345,13 @@ public final class EdgeHourTest {
         x.send(1);
         x.hours(1);
         CHECK.dueRow("p by 13, q not by 9 for 10", new int[] {x.crosser(0, 3), x.crosser(1, 3), x.span(0, 0)}, 0, -3, 9);
+        // what is on it then is without him: his own noise and load tell only behind his step
+        x = Check.of("spans 1; sleeper a 1 0 0 0; crosser p 8 4 1; holds = 10 - noise;");
+        x.send(0);
+        CHECK.dueRow("8 by 10, then 6: he falls", new int[] {x.hours(1), x.crosser(0, 3), x.span(0, 0), x.hours(1), x.crosser(0, 3)}, 1, 0, 6, 2, 10);
+        x = Check.of("spans 1; sleeper a 1 0 0 0; crosser p 8 0 1; holds = 10 - load;");
+        x.send(0);
+        CHECK.dueRow("8 by 10, then 2: he falls", new int[] {x.hours(1), x.crosser(0, 3), x.span(0, 0), x.hours(1), x.crosser(0, 3)}, 1, 0, 2, 2, 10);
     }
 
     private static void byHand() {
