@@ -5,7 +5,10 @@ import java.lang.reflect.Method;
 import java.lang.reflect.Modifier;
 import java.nio.file.Files;
 import java.nio.file.Path;
+import java.util.HashSet;
+import java.util.Map;
 import java.util.Set;
+import java.util.TreeMap;
 import java.util.TreeSet;
 import java.util.regex.Matcher;
 import java.util.regex.Pattern;
@@ -98,6 +101,7 @@ public final class LanguageTest {
             CHECK.due("of System " + system.group(1), system.group(1).equals("arraycopy"), true);
         }
         methodsAreShort(code);
+        callsAreShallow(code);
         callsMakeNothing(code);
     }
 
@@ -125,5 +129,39 @@ public final class LanguageTest {
                 from = 0;
             }
         }
+    }
+
+    /** Methods are known by their names alone; a call back to one that stands open is recursion, and not counted. */
+    private static void callsAreShallow(String code) {
+        Map<String, Set<String>> calls = new TreeMap<>();
+        String[] lines = code.split("\n");
+        Pattern head = Pattern.compile("\\s+(?:(?:public|private|static|final) )*(?:\\w+(?:\\[\\])? )?(\\w+)\\([^;]*\\) \\{");
+        Set<String> open = new HashSet<>();
+        for (String line : lines) {
+            Matcher matcher = head.matcher(line);
+            if (matcher.matches()) {
+                open = calls.computeIfAbsent(matcher.group(1), name -> new TreeSet<>());
+                continue;
+            }
+            Matcher call = Pattern.compile("(?<!new )\\b(\\w+)\\(").matcher(line);
+            while (call.find()) {
+                open.add(call.group(1));
+            }
+        }
+        CHECK.due("methods were found", calls.size() > 100, true);
+        for (String name : calls.keySet()) {
+            CHECK.due("calls at most eight deep from " + name, deepest(name, calls, new HashSet<>()) <= 8, true);
+        }
+    }
+
+    private static int deepest(String name, Map<String, Set<String>> calls, Set<String> standing) {
+        int deepest = 0;
+        if (standing.add(name)) {
+            for (String next : calls.getOrDefault(name, Set.of())) {
+                deepest = Math.max(deepest, standing.contains(next) ? 0 : deepest(next, calls, standing));
+            }
+            standing.remove(name);
+        }
+        return deepest + 1;
     }
 }
